@@ -7,6 +7,7 @@ public final class BestTest {
         change();
         bold();
         mean();
+        ofSix();
         Check.end();
     }
 
@@ -192,5 +193,18 @@ public final class BestTest {
         fraction(d, 99, 1);
         Check.due("mean(2)", d.mean(2), StalemateDinner.NO);
         Check.due("mean(-1)", d.mean(-1), StalemateDinner.NO);
+    }
+
+    private static void ofSix() {
+        StalemateDinner d = new StalemateDinner();
+        for (int p = 0; p < 6; p++) {
+            d.guest(p == 5 ? 0 : 50, p == 4 ? 0 : 1023, 0);
+        }
+        best("six: poker", d.poker(0, 0), 0, d.poker(0, 1), 5);
+        best("six: alarm, by whom the last is told a right act", d.alarm(1, 0), 4, d.alarm(1, 1), 1);
+        best("six: change", d.change(0, 0), 45, d.change(0, 1), 5);
+        best("six: forgive", d.forgive(5, 0), 1, d.forgive(5, 1), 1);
+        Check.law(d, "dares 99;eats 1;tells 0;");
+        best("six: alarm, the last one alone", d.alarm(1, 0), 5, d.alarm(1, 1), 1);
     }
 }

@@ -1,5 +1,6 @@
 /** What the tests share: counting wrong answers, and feeding a text to a dinner. */
 final class Check {
+    private static final int MOST_PRINTED = 100;
     private static int wrong = 0;
     private static int asked = 0;
 
@@ -10,6 +11,9 @@ final class Check {
         asked++;
         if (got != want) {
             wrong++;
+            if (wrong > MOST_PRINTED) {
+                return;
+            }
             System.out.println(call + " answered " + got + ", due is " + want);
         }
     }

@@ -10,6 +10,7 @@ public final class TableTest {
         kindsTell();
         mannersRefuses();
         dinner();
+        fullTable();
         Check.end();
     }
 
@@ -257,5 +258,32 @@ public final class TableTest {
         Check.due("all ate", d.dinner(4), 201);
         Check.due("dinner(5)", d.dinner(5), -2);
         Check.due("dinner(-1)", d.dinner(-1), -2);
+    }
+
+    // Promises 2 and 12 with six, and with who came since an image gone again
+    private static void fullTable() {
+        StalemateDinner d = new StalemateDinner();
+        d.guest(0, 0b1100, 0);
+        d.guest(0, 0b1010, 0);
+        d.image();
+        for (int p = 2; p < 6; p++) {
+            d.guest(50, 0, 0);
+            d.put(p, 3, 10);
+        }
+        d.put(5, 4, 1);
+        int[] six = {0b011100, 0b100000, 1023 & ~0b1000, 0, 40};
+        for (int what = 0; what < 5; what++) {
+            Check.due("six: dinner(" + what + ")", d.dinner(what), six[what]);
+        }
+        Check.due("six: count(2)", d.count(2), 3);
+        Check.due("six: told(5, 9)", d.told(5, 9), 0);
+        d.back();
+        int[] two = {0, 0, 1023 & ~0b1000, 1023 & ~0b1110, 0};
+        for (int what = 0; what < 5; what++) {
+            Check.due("two: dinner(" + what + ")", d.dinner(what), two[what]);
+        }
+        Check.due("two: count(2)", d.count(2), 0);
+        Check.due("two: told(1, 9)", d.told(1, 9), 0);
+        Check.due("two: mean(1)", d.mean(1), 1);
     }
 }

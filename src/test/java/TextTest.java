@@ -115,6 +115,10 @@ public final class TextTest {
         fault("dares shy5;", 9);
         fault("dares shybored;", 6);
         fault("dares sh;", 6);
+        fault("dares thy;", 6);
+        fault("dares shyz;", 6);
+        fault("dares shya;", 6);
+        fault("tares 1;", 0);
         fault("daress 1;", 0);
         fault("Dares 1;", 0);
         fault("dares A;", 6);
