@@ -34,11 +34,11 @@ public final class EdgeKindsTest extends Edges {
 
     private static void calls() {
         StalemateDinner d = with("dares 99;eats 1;tells 1;", one(0, 0, 0), one(0, 1, 0));
-        // Five feeds, a text, a force, two guests: with these the last one is the 512th.
-        for (int i = 0; i < 500; i++) {
+        // A count, five feeds, a text, a force, two guests: with these ten the last one is the 512th.
+        for (int i = 0; i < 499; i++) {
             due(d, 2, "minute");
         }
-        due(d, 500, "clock", 999);
+        due(d, 499, "clock", 999);
         due(d, STATE, "minute");
         due(d, 24, "run", 12, 1);
     }

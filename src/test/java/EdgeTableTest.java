@@ -518,7 +518,10 @@ public final class EdgeTableTest extends Edges {
         d.put(0, 0, 511);
         due(d, 512, "dinner", 2);
         due(d, 512, "dinner", 3);
-        d.guest(0, 1022, 50);
+        d.guest(0, 511, 50);
+        due(d, 512, "dinner", 2);
+        due(d, 512, "dinner", 3);
+        d.put(1, 0, 1022);
         due(d, 512 | 1, "dinner", 2);
         due(d, 0, "dinner", 3);
         // In danger or not.

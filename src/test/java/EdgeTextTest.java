@@ -460,6 +460,19 @@ public final class EdgeTextTest extends Edges {
         }
         refusedBeside(Edges::read, BAD, 0, 5, "force");
         refused(Edges::read, FULL, "text");
+        // Each as long as the tape lets it be, and a fault as late as can be ahead of it.
+        d = bare();
+        for (int t = 1; t < 6; t++) {
+            due("a fault behind much", Check.text(d, "dares 1" + "+1".repeat(68) + ";eats 1;tells 1;;"), -259);
+            due("text " + t, Check.text(d, "dares " + t + "+1".repeat(68) + " " + REST), t);
+        }
+        d.guest(0, 0, 0);
+        for (int t = 1; t < 6; t++) {
+            d.force(t);
+            due(d, 68 + t, "asks", 0, 0);
+            due(d, 1, "asks", 1, 0);
+            due(d, 1, "asks", 2, 0);
+        }
     }
 
     private static void firstText() {
